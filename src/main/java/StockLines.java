@@ -828,7 +828,7 @@ public final class StockLines {
         }
     }
 
-    /** A company that is not open holds no cash and no shares, so that sums over all companies need no test. */
+    /** A company that is not open is as a new one, so that it can start, and sums over all companies need no test. */
     private static final class Company {
         final int[] held = new int[MOST_PLAYERS];
         boolean open;
@@ -848,7 +848,6 @@ public final class StockLines {
         }
 
         void openAt(int town, int firstStep) {
-            close();
             open = true;
             home = town;
             step = firstStep;
