@@ -1,70 +1,5 @@
-import java.util.function.Consumer;
-
 /** One method for each promise: ordinary inputs, the edges that the document names, and wrong inputs. */
-public final class PromiseTests {
-    private static final Class<?> INDEX = IndexOutOfBoundsException.class;
-    private static final Class<?> ARGUMENT = IllegalArgumentException.class;
-    private static final Class<?> STATE = IllegalStateException.class;
-    private static final int NONE = StockLines.NONE;
-
-    private static int wrong = 0;
-    private static String promise = "";
-
-    private static void same(String what, long got, long want) {
-        if (got != want) {
-            wrong++;
-            System.out.println(promise + ": " + what + " answered " + got + ", due is " + want);
-        }
-    }
-
-    private static void fails(String what, Class<?> kind, StockLines x, Consumer<StockLines> call) {
-        long before = x.digest();
-        Class<?> got = null;
-        try {
-            call.accept(x);
-        } catch (RuntimeException e) {
-            got = e.getClass();
-        }
-        if (got != kind) {
-            wrong++;
-            System.out.println(promise + ": " + what + " threw " + got + ", due is " + kind);
-        }
-        same("digest after " + what, x.digest(), before);
-    }
-
-    private static void passes(StockLines x, int times) {
-        for (int i = 0; i < times; i++) {
-            x.pass();
-        }
-    }
-
-    private static void write(StockLines x, String text) {
-        x.clearText();
-        for (int i = 0; i < text.length(); i++) {
-            x.append(text.charAt(i));
-        }
-    }
-
-    private static int played(StockLines x, String text) {
-        write(x, text);
-        return x.play();
-    }
-
-    private static void routeIs(StockLines x, int company, int... towns) {
-        for (int i = 0; i < towns.length; i++) {
-            same("route town " + i, x.route(company, i), towns[i]);
-        }
-        same("behind the route", x.route(company, towns.length), NONE);
-    }
-
-    /** Company 0 at town 0 with a price of 100, the property of player 0, next to operate. */
-    private static StockLines operating() {
-        StockLines x = new StockLines();
-        x.start(0, 0, 8);
-        passes(x, 3);
-        return x;
-    }
-
+public final class PromiseTests extends Check {
     private static void promise1NewObject() {
         StockLines x = new StockLines();
         int[] due = {3, 0, 0, 0, NONE, 0, 0, 0, 0, 0};
@@ -628,17 +563,11 @@ public final class PromiseTests {
         same("over", fixed.value(3), 0);
     }
 
-    private static void allTownsAreWorthless(StockLines x) {
-        for (int town = 0; town < 8; town++) {
-            x.setTown(town, 0);
-        }
-    }
-
     private static void upkeep() {
         StockLines x = new StockLines();
         x.begin(2);
         x.start(0, 0, 2);
-        allTownsAreWorthless(x);
+        worthless(x);
         for (int other = 1; other <= 2; other++) {
             passes(x, 2);
             x.extend();
@@ -693,7 +622,7 @@ public final class PromiseTests {
                 int[] other = {1, 2, 3, 4, 5, 6};
                 passes(x, 2);
                 x.operate(0, 1, false);
-                allTownsAreWorthless(x);
+                worthless(x);
                 same("cash", x.company(0, 2), 200 - 20 + cash - 10);
                 for (int i = 1; i < other.length; i++) {
                     passes(x, 2);
@@ -728,7 +657,7 @@ public final class PromiseTests {
             x.pass();
         }
         same("cash of the president", x.player(0, 0), 0);
-        allTownsAreWorthless(x);
+        worthless(x);
         x.pass();
         int[] cash = {405, 305, 200, 155, 110, 65, 20};
         for (int i = 0; i < cash.length; i++) {
@@ -780,7 +709,7 @@ public final class PromiseTests {
             x.buy(company);
         }
         x.pass();
-        allTownsAreWorthless(x);
+        worthless(x);
         x.pass();
         int[] other = {1, 1, 2, 3, 4, 5, 6};
         for (int i = 0; i < other.length; i++) {
@@ -831,7 +760,7 @@ public final class PromiseTests {
         StockLines x = new StockLines();
         x.begin(2);
         x.start(0, 0, 2);
-        allTownsAreWorthless(x);
+        worthless(x);
         x.pass();
         x.sell(0, 2);
         x.pass();
@@ -1110,11 +1039,7 @@ public final class PromiseTests {
     }
 
     private static void unsoldIs(StockLines x, double want) {
-        double got = x.unsold();
-        if (got != want) {
-            wrong++;
-            System.out.println(promise + ": unsold answered " + got + ", due is " + want);
-        }
+        alike("unsold", x.unsold(), want);
     }
 
     private static void promise21Unsold() {
@@ -1359,21 +1284,13 @@ public final class PromiseTests {
             PromiseTests::promise25Undo, PromiseTests::promise26Digest,
         };
         for (int i = 0; i < all.length; i++) {
-            promise = "promise " + (i + 1);
+            label = "promise " + (i + 1);
             try {
                 all[i].run();
             } catch (RuntimeException e) {
-                wrong++;
-                StackTraceElement[] trace = e.getStackTrace();
-                System.out.println(promise + ": broken off by " + e);
-                for (StackTraceElement line : trace) {
-                    System.out.println("    " + line);
-                }
+                brokenOff(e);
             }
         }
-        System.out.println(wrong == 0 ? "all promises hold" : wrong + " answers are not as due");
-        if (wrong != 0) {
-            System.exit(1);
-        }
+        end(all.length);
     }
 }
