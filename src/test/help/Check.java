@@ -165,6 +165,33 @@ abstract class Check {
         return count;
     }
 
+    /** The digest that is due, with a text of that length and so many saved states. */
+    static long hash(StockLines x, int length, int states) {
+        long h = 31L * 3583 + length;
+        for (int what = 0; what <= 9; what++) {
+            h = 31 * h + x.value(what);
+        }
+        for (int player = 0; player < x.value(0); player++) {
+            for (int what = 0; what <= 6; what++) {
+                h = 31 * h + x.player(player, what);
+            }
+        }
+        for (int company = 0; company < 4; company++) {
+            for (int what = 0; what <= 8; what++) {
+                h = 31 * h + x.company(company, what);
+            }
+        }
+        for (int a = 0; a < 8; a++) {
+            for (int b = a + 1; b < 8; b++) {
+                h = 31 * h + x.track(a, b);
+            }
+        }
+        for (int town = 0; town < 8; town++) {
+            h = 31 * h + x.town(town);
+        }
+        return 31 * h + states;
+    }
+
     static void routeIs(StockLines x, int company, int... towns) {
         for (int i = 0; i < towns.length; i++) {
             same("route town " + i, x.route(company, i), towns[i]);
@@ -297,6 +324,32 @@ abstract class Check {
             round(x, i <= 6 ? 0 : NONE, i <= 6 ? i : NONE, true);
         }
         x.setTown(1, 0);
+        return x;
+    }
+
+    /** 2 players; player 0 is next, and has all shares of company 0, by mergers; its price is 40. */
+    static StockLines tenShares() {
+        StockLines x = game(2);
+        x.start(0, 0, 2);
+        x.start(1, 0, 2);
+        x.pass();
+        x.sell(1, 1);
+        x.sell(1, 1);
+        x.start(2, 0, 2);
+        x.buy(0);
+        x.sell(2, 1);
+        x.sell(2, 1);
+        x.pass();
+        int[] bought = {0, 0, 0, 1, 1, 1, 1, 1, 1, 2, 2};
+        for (int company : bought) {
+            x.buy(company);
+            x.pass();
+        }
+        x.merge(0, 1);
+        x.pass();
+        x.merge(0, 2);
+        x.pass();
+        same("shares", x.player(0, 1), 10);
         return x;
     }
 }

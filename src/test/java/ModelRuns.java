@@ -878,6 +878,13 @@ public final class ModelRuns {
         }
     }
 
+    private static void sellOwn(StockLines x, Model m) {
+        int c = random.nextInt(4);
+        int held = m.player(m.s.turn, c + 1);
+        int shares = random.nextInt(3) == 0 ? held + random.nextInt(2) : 1;
+        alike("sell(" + c + ", " + shares + ")", () -> x.sell(c, shares), () -> m.sell(c, shares));
+    }
+
     private static void oneRun() {
         random.setSeed(run);
         calls = 0;
@@ -885,7 +892,8 @@ public final class ModelRuns {
         boolean merging = run % 3 == 2;
         StockLines x = new StockLines();
         Model m = new Model();
-        alike("begin(" + (2 + run % 2) + ")", () -> x.begin(2 + run % 2), () -> m.begin(2 + run % 2));
+        int players = 2 + run / 3 % 3;
+        alike("begin(" + players + ")", () -> x.begin(players), () -> m.begin(players));
         for (int i = 0; i < 8 && poor; i++) {
             int town = i;
             int value = random.nextInt(8);
@@ -894,6 +902,8 @@ public final class ModelRuns {
         while (calls < MOST_CALLS && wrong < 20) {
             if (merging && random.nextInt(12) == 0) {
                 mergeOwn(x, m);
+            } else if (random.nextInt(16) == 0) {
+                sellOwn(x, m);
             } else if ((poor || merging) && random.nextInt(12) > 0) {
                 spend(x, m);
             } else if (m.s.operating) {

@@ -204,6 +204,16 @@ public final class StockBoundaries extends Check {
             same("paid", x.start(company, company, 8), 500);
             same("balance", x.value(6), -300 * (company + 1));
         }
+        StockLines rich = game(2);
+        rich.setTown(0, 90);
+        rich.setTown(1, 90);
+        rich.start(0, 0, 8);
+        round(rich, 0, 1, false);
+        for (int i = 1; i <= 30; i++) {
+            round(rich, NONE, NONE, false);
+            same("balance", rich.value(6), -300 + 20 - 170 * (i + 1));
+        }
+        same("cash", rich.start(1, 0, 8), 500);
     }
 
     @Says(in = TERMS, value = "The bank's balance is 0 at first, and can be negative.")
@@ -394,6 +404,14 @@ public final class StockBoundaries extends Check {
             x.begin(4);
         }
         same("digest", played.digest(), fresh.digest());
+        for (int town = 2; town < 8; town++) {
+            same("town " + town, played.town(town), town - 1);
+        }
+        same("text", played.append('q'), fresh.append('q'));
+        same("length of the text", played.clearText(), 5);
+        same("length of the text", fresh.clearText(), 5);
+        write(played, "p;p;");
+        write(fresh, "p;p;");
         same("the text is played", played.play(), fresh.play());
         passes(fresh, 2);
         passes(played, 2);
@@ -516,10 +534,12 @@ public final class StockBoundaries extends Check {
     @Says(in = "Promise 4: start", value = "the company is open")
     static void anOpenCompanyDoesNotStartButAClosedOneDoes() {
         refused("open", STATE, () -> savedUp(10), x -> x.start(2, 0, 2));
-        StockLines closed = poorSold(2, 9, 2);
+        StockLines closed = poorSold(5, 9, 2);
         closed.operate(NONE, NONE, true);
         same("behind a closing", closed.start(0, 3, 2), 200);
         same("shares", closed.company(0, 6), 8);
+        same("stops", closed.company(0, 4), 2);
+        same("home", closed.company(0, 1), 3);
         StockLines merged = bothOf(2, 2);
         merged.merge(0, 1);
         same("behind a merger", merged.start(1, 3, 2), 200);
@@ -644,32 +664,6 @@ public final class StockBoundaries extends Check {
         alike("ten of nine", thrown(y, z -> z.sell(0, 10)), STATE);
     }
 
-    /** Player 0 has all shares of company 0, by mergers; its price is 40. */
-    private static StockLines tenShares() {
-        StockLines x = game(2);
-        x.start(0, 0, 2);
-        x.start(1, 0, 2);
-        x.pass();
-        x.sell(1, 1);
-        x.sell(1, 1);
-        x.start(2, 0, 2);
-        x.buy(0);
-        x.sell(2, 1);
-        x.sell(2, 1);
-        x.pass();
-        int[] bought = {0, 0, 0, 1, 1, 1, 1, 1, 1, 2, 2};
-        for (int company : bought) {
-            x.buy(company);
-            x.pass();
-        }
-        x.merge(0, 1);
-        x.pass();
-        x.merge(0, 2);
-        x.pass();
-        same("shares", x.player(0, 1), 10);
-        return x;
-    }
-
     // ---- merge
 
     /** 2 players, player 0 is next, the president of 0 (price 40) and 1 (price 50), with so many shares of both. */
@@ -770,6 +764,11 @@ public final class StockBoundaries extends Check {
         same("the bank's", x.company(0, 6), 0);
         same("cash of both", x.merge(0, 1), 400);
         same("shares", x.player(0, 1), 6);
+        StockLines y = held(6, 0);
+        y.start(1, 0, 2);
+        y.buy(1);
+        y.sell(1, 1);
+        same("one share each needs none of the bank's", y.merge(0, 1), 400);
     }
 
     @Says(in = TERMS, value = "a gets the cash of b; b is not open any more.")

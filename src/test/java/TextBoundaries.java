@@ -243,7 +243,10 @@ public final class TextBoundaries extends Check {
     static void movesAtTheirBoundaries() {
         same("300 of cash for three shares at 100", withText("p;b0;p;b0;p;b0;p;b0;p;b0;").play(), 7);
         same("a seventh share", sixShares("b0;"), 0);
-        same("too many", sixShares("x07;"), 0);
+        for (int shares = 7; shares <= 9; shares++) {
+            same("too many", sixShares("x0" + shares + ";"), 0);
+        }
+        same("nine of ten, and the last one", played(tenShares(), "x09;x01;x01;"), 2);
         same("all", sixShares("x06;"), 1);
         same("one too many", sixShares("x03;x04;"), 1);
         same("all in two", sixShares("x03;x03;"), 2);
@@ -361,6 +364,28 @@ public final class TextBoundaries extends Check {
         undoable("play", () -> started("p;p;p;o;p;"), StockLines::play);
     }
 
+    @Says(in = TERMS, value = "The saved state contains everything")
+    static void undoRestoresAClosedAndARestartedCompany() {
+        StockLines x = poorSold(2, 9, 2);
+        x.operate(NONE, NONE, true);
+        same("closed", x.value(9), 1);
+        x.undo();
+        same("not closed", x.value(9), 0);
+        same("its cash", x.company(0, 2), 9);
+        x.operate(NONE, NONE, true);
+        x.start(0, 7, 8);
+        int[] due = {1, 7, 500, 100, 2, 1, 8, 0, 0};
+        for (int what = 0; what < due.length; what++) {
+            same("started anew, what " + what, x.company(0, what), due[what]);
+        }
+        x.undo();
+        x.undo();
+        int[] before = {1, 0, 9, 20, 2, NONE, 10, 0, 9};
+        for (int what = 0; what < before.length; what++) {
+            same("as before, what " + what, x.company(0, what), before[what]);
+        }
+    }
+
     @Says(in = TERMS, value = "even if the call changes nothing")
     static void aCallWithoutAChangeSavesAState() {
         undoable("begin", StockLines::new, x -> x.begin(3));
@@ -453,32 +478,6 @@ public final class TextBoundaries extends Check {
     }
 
     // ---- digest
-
-    private static long hash(StockLines x, int length, int states) {
-        long h = 31L * 3583 + length;
-        for (int what = 0; what <= 9; what++) {
-            h = 31 * h + x.value(what);
-        }
-        for (int player = 0; player < x.value(0); player++) {
-            for (int what = 0; what <= 6; what++) {
-                h = 31 * h + x.player(player, what);
-            }
-        }
-        for (int company = 0; company < 4; company++) {
-            for (int what = 0; what <= 8; what++) {
-                h = 31 * h + x.company(company, what);
-            }
-        }
-        for (int a = 0; a < 8; a++) {
-            for (int b = a + 1; b < 8; b++) {
-                h = 31 * h + x.track(a, b);
-            }
-        }
-        for (int town = 0; town < 8; town++) {
-            h = 31 * h + x.town(town);
-        }
-        return 31 * h + states;
-    }
 
     @Says(in = "Promise 26: digest", value = "set h = 31 * h + v: the length of the text; value() for 0 to 9; for each"
             + " player the values of player() for what = 0 to 6; for each company the values of company() for what = 0 to"

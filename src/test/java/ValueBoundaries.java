@@ -239,6 +239,9 @@ public final class ValueBoundaries extends Check {
         x.operate(0, 1, true);
         routeIs(x, 0, 0, 1);
         same("far behind", x.route(0, Integer.MAX_VALUE), NONE);
+        x.start(1, 7, 2);
+        same("a route of another company", x.company(0, 7), 30);
+        routeIs(x, 1);
         routeIs(fullLand(1), 0, 0, 1, 2, 3, 4);
         StockLines closed = poorSold(2, 9, 2);
         routeIs(closed, 0, 0, 1);
