@@ -12,7 +12,7 @@ import java.util.regex.Pattern;
  * another way: every answer, every exception and the digest behind every call must be alike.
  */
 public final class ModelRuns {
-    private static final int RUNS = 300;
+    private static final int RUNS = 400;
     /** The document tells nothing of an object behind its 512th call. */
     private static final int MOST_CALLS = 512;
     private static final int NONE = -1;
@@ -865,6 +865,24 @@ public final class ModelRuns {
         }
     }
 
+    /** Worthless companies of five stops live on their presidents' money, until there is none, or no president. */
+    private static void ruin(StockLines x, Model m) {
+        int c = random.nextInt(4);
+        boolean pays = random.nextBoolean();
+        if (m.s.operating && m.company(m.value(4), 4) < 5 && m.company(m.value(4), 2) >= 60 && !m.s.extended) {
+            alike("extend()", x::extend, m::extend);
+        } else if (m.s.operating) {
+            alike("operate(NONE, NONE, " + pays + ")", () -> x.operate(-1, -1, pays), () -> m.operate(-1, -1, pays));
+        } else if (m.s.firms[c] == null && m.s.cash[m.s.turn] >= 100 && random.nextInt(3) == 0) {
+            // The least price with which three stops can be paid.
+            alike("start(" + c + ", " + c + ", 3)", () -> x.start(c, c, 3), () -> m.start(c, c, 3));
+        } else if (m.player(m.s.turn, c + 1) > 1 && random.nextInt(6) == 0) {
+            alike("sell(" + c + ", 1)", () -> x.sell(c, 1), () -> m.sell(c, 1));
+        } else {
+            alike("pass()", x::pass, m::pass);
+        }
+    }
+
     private static void mergeOwn(StockLines x, Model m) {
         for (int a = 0; a < 4; a++) {
             for (int b = 0; b < 4; b++) {
@@ -888,19 +906,22 @@ public final class ModelRuns {
     private static void oneRun() {
         random.setSeed(run);
         calls = 0;
-        boolean poor = run % 3 == 1;
-        boolean merging = run % 3 == 2;
+        boolean poor = run % 4 == 1;
+        boolean merging = run % 4 == 2;
+        boolean ruined = run % 4 == 3;
         StockLines x = new StockLines();
         Model m = new Model();
-        int players = 2 + run / 3 % 3;
+        int players = 2 + run / 4 % 3;
         alike("begin(" + players + ")", () -> x.begin(players), () -> m.begin(players));
-        for (int i = 0; i < 8 && poor; i++) {
+        for (int i = 0; i < 8 && (poor || ruined); i++) {
             int town = i;
             int value = random.nextInt(8);
             alike("setTown(" + town + ", " + value + ")", () -> x.setTown(town, value), () -> m.setTown(town, value));
         }
         while (calls < MOST_CALLS && wrong < 20) {
-            if (merging && random.nextInt(12) == 0) {
+            if (ruined && random.nextInt(40) > 0) {
+                ruin(x, m);
+            } else if (merging && random.nextInt(12) == 0) {
                 mergeOwn(x, m);
             } else if (random.nextInt(16) == 0) {
                 sellOwn(x, m);
